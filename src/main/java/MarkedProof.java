@@ -731,10 +731,9 @@ public final class MarkedProof {
 
     /** Reads a text of MARKS, TOKEN by TOKEN, up to its first FAULT. */
     private static final class MarkReader {
-        private static final int NO_TOKEN = 0;
+        private static final int ONE_BYTE = 0;
         private static final int LETTERS = 1;
         private static final int DIGITS = 2;
-        private static final int SIGN = 3;
 
         private Tape tape;
         private Pile pile;
@@ -935,7 +934,7 @@ public final class MarkedProof {
             if (at < tape.size) {
                 at++;
             }
-            if (sort != LETTERS && sort != DIGITS) {
+            if (sort == ONE_BYTE) {
                 return;
             }
             for (int i = at; i < tape.size && sortOf(tape.byteAt(i)) == sort; i++) {
@@ -943,6 +942,7 @@ public final class MarkedProof {
             }
         }
 
+        /** A byte that is in no TOKEN is taken for one too: no text goes on with it. */
         private static int sortOf(int b) {
             if (isSmall(b)) {
                 return LETTERS;
@@ -950,7 +950,7 @@ public final class MarkedProof {
             if (isDigit(b)) {
                 return DIGITS;
             }
-            return b == '?' || b == '=' || b == ';' ? SIGN : NO_TOKEN;
+            return ONE_BYTE;
         }
 
         private boolean isToken(String name) {

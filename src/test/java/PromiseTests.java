@@ -573,6 +573,12 @@ public final class PromiseTests {
         y.costs(9, 1);
         due("15: any of three", y.hold(), 1);
         due("16: the least of them", y.held(0), 1);
+        MarkedProof w = desk("a", "author put 0 = p q; author put 0 = r s; author put 0 = p q r x;");
+        Desk.second(w, "p q r x a");
+        w.costs(3, 3);
+        due("15: two misses, or one and a change", w.hold(), 6);
+        due("16: the fewest, though it is not the least", w.held(0), 4);
+        due("16: with its change", w.held(2), 1);
         MarkedProof z = desk("a b c d", "author strike 3 3; author put 0 = x; author ? put 1 = y; author put 1 = z;");
         Desk.second(z, "x a b c");
         z.costs(9, 1);
