@@ -2,6 +2,7 @@
 final class Desk {
     private int wrong = 0;
     private int asked = 0;
+    private String sentence = "";
 
     /** Puts a text on THE TAPE, twenty bytes a call, and cuts what the last call brought too much. */
     static void tape(MarkedProof x, String text) {
@@ -35,6 +36,47 @@ final class Desk {
         return x.marks();
     }
 
+    /** A new object with a first proof and MARKS on it. */
+    static MarkedProof open(String first, String marks) {
+        MarkedProof x = new MarkedProof();
+        first(x, first);
+        marks(x, marks);
+        return x;
+    }
+
+    /** A proof of so many WORDS, each its own: w0 w1 w2 .. */
+    static String proofOf(int words) {
+        StringBuilder all = new StringBuilder();
+        for (int i = 0; i < words; i++) {
+            all.append(i == 0 ? "w" : " w").append(i);
+        }
+        return all.toString();
+    }
+
+    /** All that an object tells of its state, so that a refused call can be seen to have changed nothing. */
+    static String all(MarkedProof x) {
+        StringBuilder told = new StringBuilder();
+        for (int what = 0; what <= 12; what++) {
+            told.append(x.count(what)).append(' ');
+        }
+        for (int t = 0; t < 3; t++) {
+            told.append('/').append(text(x, t));
+        }
+        for (int k = 0; k < x.count(3); k++) {
+            for (int what = 0; what < 16; what++) {
+                told.append(what == 0 ? '/' : ' ').append(x.mark(k, what));
+            }
+        }
+        for (int what = 0; what < 18; what++) {
+            told.append(what == 0 ? '/' : ' ').append(x.held(what));
+        }
+        for (int i = 0; x.unasked(i, 0) != MarkedProof.NONE; i++) {
+            told.append('/').append(x.unasked(i, 0)).append(' ').append(x.unasked(i, 1)).append(' ').append(x.unasked(i, 2));
+        }
+        return told.append('/').append(x.pays(0)).append(' ').append(x.pays(1)).append(' ').append(x.fault(0)).append(' ')
+            .append(x.fault(1)).toString();
+    }
+
     static String nameOf(long word) {
         StringBuilder name = new StringBuilder();
         for (long w = word; w != 0; w >>>= 8) {
@@ -52,11 +94,20 @@ final class Desk {
         return all.toString();
     }
 
+    /** A test of one sentence of the document: what goes wrong in it is told with the sentence. */
+    void says(String told, Runnable test) {
+        int before = asked;
+        sentence = "'" + told + "': ";
+        test.run();
+        due("answers asked", asked > before ? 1 : 0, 1);
+        sentence = "";
+    }
+
     void due(String what, long got, long want) {
         asked++;
         if (got != want) {
             wrong++;
-            System.out.println(what + " answered " + got + ", due is " + want);
+            System.out.println(sentence + what + " answered " + got + ", due is " + want);
         }
     }
 
@@ -64,7 +115,7 @@ final class Desk {
         asked++;
         if (!got.equals(want)) {
             wrong++;
-            System.out.println(what + " answered '" + got + "', due is '" + want + "'");
+            System.out.println(sentence + what + " answered '" + got + "', due is '" + want + "'");
         }
     }
 
