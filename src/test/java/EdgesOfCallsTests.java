@@ -229,10 +229,21 @@ public final class EdgesOfCallsTests {
         due("RANKS stay", x.count(11), 7);
         due("prices stay", x.price(0, 5), 6);
         due("costs stay", x.hold(), 8 * 5);
-        Desk.marks(x, "author strike 0 0;");
-        due("none is OVERRULED, VOID or an ERROR as one was before", x.mark(0, 6) + x.mark(0, 8), 0);
+        dueFreshMarks(x);
         due("an empty text is a proof too", x.first(), 0);
         due("and there are no MARKS then", x.count(3), 0);
+    }
+
+    /** None of new MARKS is VOID, a QUERY or an ERROR because one with its number once was. */
+    private static void dueFreshMarks(MarkedProof x) {
+        due("new MARKS", Desk.marks(x, "printer put 0 = x;".repeat(8)), 8);
+        for (int k = 0; k < 8; k++) {
+            int[] told = {1, 2, 0, NONE, NONE, 1, 0, NONE, 0, -9, 'x', -9};
+            for (int what = 0; what < told.length; what++) {
+                due("new mark(" + k + ", " + what + ")", x.mark(k, what), told[what]);
+            }
+        }
+        due("all are DONE", x.count(5), 8);
     }
 
     private static void dueProofFault(boolean isFirst, String text, int kind, int place) {
@@ -718,8 +729,8 @@ public final class EdgesOfCallsTests {
         due("THE TAPE stays", x.count(9), bytes);
         due("costs stay", x.hold(), 40);
         x.end(0);
-        due("MARKS on it", Desk.marks(x, "author strike 7 7;"), 1);
-        due("done", x.count(2), 7);
+        dueFreshMarks(x);
+        due("THE TEXT", x.count(2), 16);
     }
 
     private static void nextState() {

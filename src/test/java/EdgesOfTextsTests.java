@@ -660,17 +660,23 @@ public final class EdgesOfTextsTests {
 
     private static void noneComes() {
         String good = "author strike 0 0; author stet 0; author put 2 = y;";
+        String spoilt = "reader ? turn 0 1 1; author ? put 0 = p q r; author stet 2;";
         for (String bad : new String[] {"author", "bob", "author strike 2 2;", "author put 0 = a b c d e f g;", "*"}) {
             MarkedProof x = Desk.open("a b", "author put 0 = x;");
             Desk.second(x, "q");
             x.hold();
             String before = Desk.all(x);
-            due("answer with " + bad, Desk.marks(x, good + bad), NONE);
+            due("answer with " + bad, Desk.marks(x, spoilt + bad), NONE);
             String behind = Desk.all(x);
             DESK.due("all but the FAULT", behind.substring(0, behind.lastIndexOf('/')), before.substring(0, before.lastIndexOf('/')));
             due("they come without it", Desk.marks(x, good), 3);
             due("numbered on", x.mark(3, 2), 2);
-            due("done", x.mark(0, 6) * 100 + x.mark(0, 7) * 10 + x.mark(1, 6), 220);
+            due("the STET is done", x.mark(0, 6) * 10 + x.mark(0, 7), 22);
+            due("none WAITS", x.count(8), 0);
+            due("none but one is VOID", x.count(7), 1);
+            due("numbers", x.mark(1, 4) + x.mark(2, 3) + x.mark(3, 3), -3);
+            due("HANDS", x.mark(1, 1), 0);
+            due("WORDS", x.mark(2, 5) * 10 + x.mark(3, 5), 1);
         }
         MarkedProof y = Desk.open("a b", lines(39));
         due("two more", Desk.marks(y, "author stet 0;author put 0 = z;"), NONE);
